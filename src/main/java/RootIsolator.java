@@ -36,6 +36,8 @@ public final class RootIsolator {
     private final Point point = new Point();
     private final Poly plain = new Poly(LAST_POWER + 1);
     private final long[] fresh = new long[LAST_POWER + 1];
+    private final long[] lows = new long[LAST_POWER];
+    private final long[] highs = new long[LAST_POWER];
 
     public RootIsolator() {
     }
@@ -99,9 +101,7 @@ public final class RootIsolator {
         }
         hold(ROOTS_OF_A);
         int count = Math.min(chain.allRoots(), LAST_POWER);
-        for (int i = 0; i < count; i++) {
-            cells[i] = findCell(i, count, e);
-        }
+        findCells(count, e);
         if (!separate(count, e)) {
             return TIGHT;
         }
@@ -320,27 +320,38 @@ public final class RootIsolator {
         return lead == 0 ? LIMIT : most / lead + 2;
     }
 
-    /** The cell at level e of root i out of count. */
-    private long findCell(int i, int count, int e) {
-        long high = bound() << e;
-        long low = -high;
-        int upToLow = 0;
-        int upToHigh = count;
-        for (int step = 0; step < HALVINGS && high - low > 1; step++) {
-            if (upToLow == i && upToHigh == i + 1) {
-                return narrow(low, high, e);
+    /**
+     * The cells of all roots at level e. Root i is above lows[i] and not above highs[i], and each
+     * count brings the bounds of all roots nearer, until root i has its own part of the line.
+     */
+    private void findCells(int count, int e) {
+        long most = bound() << e;
+        for (int i = 0; i < count; i++) {
+            lows[i] = -most;
+            highs[i] = most;
+        }
+        for (int i = 0; i < count; i++) {
+            for (int step = 0; step < HALVINGS && highs[i] - lows[i] > 1 && !isApart(i, count); step++) {
+                long middle = lows[i] + highs[i] >> 1;
+                part(middle, rootsUpTo(middle, e), count);
             }
-            long middle = low + high >> 1;
-            int upToMiddle = rootsUpTo(middle, e);
-            if (upToMiddle > i) {
-                high = middle;
-                upToHigh = upToMiddle;
+            cells[i] = isApart(i, count) ? narrow(lows[i], highs[i], e) : lows[i];
+        }
+    }
+
+    private boolean isApart(int i, int count) {
+        return (i == 0 || highs[i - 1] <= lows[i]) && (i + 1 >= count || highs[i] <= lows[i + 1]);
+    }
+
+    /** As many roots as upTo are not above the middle. */
+    private void part(long middle, int upTo, int count) {
+        for (int i = 0; i < count; i++) {
+            if (i < upTo) {
+                highs[i] = Math.min(highs[i], middle);
             } else {
-                low = middle;
-                upToLow = upToMiddle;
+                lows[i] = Math.max(lows[i], middle);
             }
         }
-        return low;
     }
 
     /** The cell of the only root above low and not above high: one sign a step, not a whole chain's. */
@@ -614,14 +625,10 @@ public final class RootIsolator {
 
         /** Halves until the number is odd: how often. */
         int makeOdd() {
-            int low = 0;
-            while (low < size && limbs[low] == 0) {
-                low++;
+            int bits = 0;
+            while (bits < size * BITS && (limbs[bits / BITS] >> bits % BITS & 1) == 0) {
+                bits++;
             }
-            if (low >= size) {
-                return 0;
-            }
-            int bits = low * BITS + Integer.numberOfTrailingZeros(limbs[low]);
             shiftDown(bits);
             return bits;
         }
@@ -766,8 +773,9 @@ public final class RootIsolator {
      * positive factors; the last one is what the first two have in common.
      */
     private static final class Chain {
-        private static final int ROWS = 10;
-        // The derivative of A times B goes up to x^15.
+        // The second row goes up to x^8, and from there on the degree falls with every row.
+        private static final int ROWS = LAST_POWER + 2;
+        // The first row goes up to x^15, as the derivative of A times B does.
         private static final int WIDEST = 2 * LAST_POWER;
 
         private final Poly[] rows = new Poly[ROWS];
@@ -783,7 +791,7 @@ public final class RootIsolator {
 
         Chain() {
             for (int k = 0; k < ROWS; k++) {
-                rows[k] = new Poly(k == 0 ? WIDEST : LAST_POWER + 1);
+                rows[k] = new Poly(k == 0 ? WIDEST : ROWS - k);
             }
         }
 
