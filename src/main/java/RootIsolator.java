@@ -205,11 +205,11 @@ public final class RootIsolator {
         plain.load(a);
         point.moveTo(r, 0);
         for (int k = 0; k <= LAST_POWER; k++) {
-            Whole part = point.taylor(plain, k);
-            if (!part.isWithin(LIMIT)) {
+            Whole number = point.taylor(plain, k);
+            if (!number.isShort()) {
                 return FULL;
             }
-            fresh[k] = part.lowPart();
+            fresh[k] = number.lowPart();
         }
         return replaceA();
     }
@@ -476,8 +476,9 @@ public final class RootIsolator {
             side = side == 0 ? 0 : 1;
         }
 
-        boolean isWithin(int limit) {
-            return size == 0 || size == 1 && limbs[0] <= limit;
+        /** Whether one limb holds it; what needs more is beyond LIMIT. */
+        boolean isShort() {
+            return size <= 1;
         }
 
         int lowPart() {

@@ -185,6 +185,8 @@ public final class PromiseTest {
         due("6: the same point twice", x.between(0, 1, 0, 1L << 30, 30), 0);
         due("6: backwards", x.between(0, 5, 0, -5, 0), 0);
         due("6: backwards by a little", x.between(0, 5, 1, 2, 0), 0);
+        due("6: backwards over a root, e above f", x.between(0, 3, 1, 1, 0), 0);
+        due("6: backwards over a root, e below f", x.between(0, 2, 0, 5, 2), 0);
         due("6: levels that differ", x.between(0, 3, 2, 3, 1), 2);
         due("6: longs that would overflow", x.between(0, Long.MIN_VALUE, 30, Long.MAX_VALUE, 0), 4);
         due("6: the same, turned", x.between(0, Long.MAX_VALUE, 0, Long.MIN_VALUE, 30), 0);
@@ -488,6 +490,10 @@ public final class PromiseTest {
         fill(x, 0);
         due("16: of ZERO", x.derive(), ZERO);
         holds("16", x, 1);
+        fill(x, 0, 0, 0, 0, 0, 0, 0, 0, 1);
+        x.times(0);
+        due("16: after times", x.derive(), 7);
+        holds("16: after times", x, 1, 0, 0, 0, 0, 0, 0, 0, 8);
         fill(x, 0, -2, 0, 1);
         x.isolate(1);
         x.derive();
