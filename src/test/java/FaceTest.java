@@ -19,9 +19,12 @@ public final class FaceTest {
         "long cell(int)", "int exact(int)", "int multiplicity(int)", "int signAt(int)", "int common()",
         "int divisor()", "int derive()", "int times(int)", "int shift(int)", "int swap()");
     private static final Set<String> CONSTANTS = Set.of("NONE", "BAD", "ZERO", "TIGHT", "FULL");
-    private static final List<String> FORBIDDEN = List.of("\\bimport\\b", "\\bpackage\\b", "\\bcatch\\b",
-        "\\btry\\b", "\\bthrow\\b", "\\bfinally\\b", "\\bsynchronized\\b", "\\bassert\\b", "\\bdouble\\b",
-        "\\bfloat\\b", "->", "::", "Exact\\(", "\\bnull\\b", "\\bBig(Integer|Decimal)\\b", "System\\.(?!arraycopy)");
+    private static final List<String> FORBIDDEN = List.of(
+        "\\bimport\\s+(?!java\\.util\\.(ArrayList|List|Arrays|Iterator|NoSuchElementException);)", "\\bpackage\\b",
+        "\\bcatch\\s*\\(\\s*(ArrayIndexOutOfBounds|NullPointer|ClassCast|NegativeArraySize|ArrayStore)?"
+            + "(Exception|Throwable|Error)\\b",
+        "\\bfinally\\b", "\\bsynchronized\\b", "\\bassert\\b", "(?m)^(?!\\s*(case|default)\\b).*->", "::",
+        "Exact\\(", "\\bBig(Integer|Decimal)\\b", "\\bSystem\\.(?!arraycopy)", "\\bThread\\b", "\\bRandom\\b");
 
     private static int wrong = 0;
 
@@ -48,16 +51,16 @@ public final class FaceTest {
             fault("the methods are " + seen);
         }
         for (Class<?> inside : RootIsolator.class.getDeclaredClasses()) {
-            if (!Modifier.isStatic(inside.getModifiers()) || Modifier.isPublic(inside.getModifiers())) {
-                fault(inside + " is public or not static");
+            if (Modifier.isPublic(inside.getModifiers()) || Modifier.isProtected(inside.getModifiers())) {
+                fault(inside + " can be seen from outside");
             }
-            for (Method method : inside.getDeclaredMethods()) {
-                if (names.contains(method.getName())) {
-                    fault(method + " bears a public method's name");
-                }
-            }
+            privateNames(inside, names);
         }
-        for (Method method : RootIsolator.class.getDeclaredMethods()) {
+        privateNames(RootIsolator.class, names);
+    }
+
+    private static void privateNames(Class<?> type, Set<String> names) {
+        for (Method method : type.getDeclaredMethods()) {
             if (Modifier.isPrivate(method.getModifiers()) && names.contains(method.getName())) {
                 fault(method + " bears a public method's name");
             }

@@ -1,73 +1,5 @@
 // One part for each promise of the document: ordinary inputs, the edges it names, wrong inputs.
-public final class PromiseTest {
-    private static final int NONE = RootIsolator.NONE;
-    private static final int BAD = RootIsolator.BAD;
-    private static final int ZERO = RootIsolator.ZERO;
-    private static final int TIGHT = RootIsolator.TIGHT;
-    private static final int FULL = RootIsolator.FULL;
-    private static final int MOST = 1000000000;
-    private static final int NO_SIGN = -9;
-    private static final int[] WRONG_WHICH = {-1, 2, 3, Integer.MIN_VALUE, Integer.MAX_VALUE};
-    private static final int[] WRONG_POWER = {-1, 9, 10, Integer.MIN_VALUE, Integer.MAX_VALUE};
-    private static final int[] WRONG_LEVEL = {-1, 31, 32, 62, Integer.MIN_VALUE, Integer.MAX_VALUE};
-
-    private static int wrong = 0;
-    private static int asked = 0;
-
-    private static void due(String what, long got, long want) {
-        asked++;
-        if (got != want) {
-            wrong++;
-            System.out.println(what + " answered " + got + ", due is " + want);
-        }
-    }
-
-    private static void fill(RootIsolator x, int which, int... row) {
-        for (int k = 0; k <= 8; k++) {
-            x.set(which, k, k < row.length ? row[k] : 0);
-        }
-    }
-
-    private static RootIsolator of(int... a) {
-        RootIsolator x = new RootIsolator();
-        fill(x, 0, a);
-        return x;
-    }
-
-    private static RootIsolator pair(int[] a, int... b) {
-        RootIsolator x = of(a);
-        fill(x, 1, b);
-        return x;
-    }
-
-    private static int[] row(int... numbers) {
-        return numbers;
-    }
-
-    private static void holds(String what, RootIsolator x, int which, int... row) {
-        for (int k = 0; k <= 8; k++) {
-            due(what + ": get(" + which + ", " + k + ")", x.get(which, k), k < row.length ? row[k] : 0);
-        }
-    }
-
-    private static void root(String what, RootIsolator x, int i, int level, long cell, int exact, int many) {
-        due(what + ": level(" + i + ")", x.level(i), level);
-        due(what + ": cell(" + i + ")", x.cell(i), cell);
-        due(what + ": exact(" + i + ")", x.exact(i), exact);
-        due(what + ": multiplicity(" + i + ")", x.multiplicity(i), many);
-    }
-
-    private static void noRoot(String what, RootIsolator x, int i) {
-        root(what, x, i, NONE, 0, NONE, NONE);
-        due(what + ": signAt(" + i + ")", x.signAt(i), NO_SIGN);
-    }
-
-    private static void nothingIsolated(String what, RootIsolator x) {
-        for (int i = -1; i <= 8; i++) {
-            noRoot(what, x, i);
-        }
-    }
-
+public final class PromiseTest extends Checks {
     private static void newObject() {
         RootIsolator x = new RootIsolator();
         for (int which = 0; which <= 1; which++) {
@@ -612,9 +544,6 @@ public final class PromiseTest {
         times();
         shift();
         swap();
-        System.out.println(asked + " answers looked at, " + wrong + " wrong");
-        if (wrong != 0) {
-            System.exit(1);
-        }
+        end();
     }
 }

@@ -2,12 +2,13 @@ import com.sun.management.ThreadMXBean;
 import java.lang.management.ManagementFactory;
 import java.util.Random;
 
-// What runs of the dearest calls make anew: all calls of a run share one room, so an object has to
-// use its rows again. Bounds are in bytes, far under the room's 7.3 million fields and elements.
+// What runs of the dearest calls make anew: all calls of a run share one room of some 600,000 objects
+// and 7.3 million fields and elements. No object is under 16 bytes and no element under one, so what
+// stays under as many bytes as the room has elements stays within the room.
 public final class RoomTest {
     private static final int RUNS = 40;
-    private static final long MOST_NEW_OBJECT = 20000;
-    private static final long MOST_RUN = 400000;
+    private static final int NEW_OBJECTS = 64;
+    private static final long MOST_RUN = 7300000;
     private static final int MOST = 1000000000;
 
     private static final ThreadMXBean THREADS = (ThreadMXBean) ManagementFactory.getThreadMXBean();
@@ -55,32 +56,42 @@ public final class RoomTest {
         }
     }
 
-    private static boolean isOver(String what, long bytes, long most) {
-        System.out.println(what + ": " + bytes + " bytes");
-        if (bytes > most) {
-            System.out.println("  that is over " + most);
+    private static void newObjectsRun() {
+        int[] row = {-8, 16, 4, -24, 6, 12, -5, -2, 1};
+        for (int made = 0; made < NEW_OBJECTS; made++) {
+            RootIsolator x = new RootIsolator();
+            for (int k = 0; k <= 8; k++) {
+                x.set(0, k, row[k]);
+            }
+            x.isolate(30);
         }
-        return bytes > most;
+    }
+
+    private static boolean isOver(String what, long bytes) {
+        System.out.println(what + ": " + bytes + " bytes");
+        if (bytes > MOST_RUN) {
+            System.out.println("  that is over " + MOST_RUN);
+        }
+        return bytes > MOST_RUN;
     }
 
     public static void main(String[] args) {
         boolean over = false;
         new RootIsolator();
         long before = made();
-        RootIsolator x = new RootIsolator();
-        over |= isOver("a new object", made() - before, MOST_NEW_OBJECT);
+        newObjectsRun();
+        over |= isOver(NEW_OBJECTS + " new objects", made() - before);
         long worst = 0;
         for (int run = 0; run < RUNS; run++) {
             Random random = new Random(run);
             before = made();
-            x = new RootIsolator();
-            dearRun(x, random);
+            dearRun(new RootIsolator(), random);
             worst = Math.max(worst, made() - before);
         }
-        over |= isOver("the dearest run with the greatest numbers", worst, MOST_RUN);
+        over |= isOver("the dearest run with the greatest numbers", worst);
         before = made();
         repeatedRun(new RootIsolator());
-        over |= isOver("a run with repeated roots", made() - before, MOST_RUN);
+        over |= isOver("a run with repeated roots", made() - before);
         if (over) {
             System.exit(1);
         }
