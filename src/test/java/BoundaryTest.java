@@ -223,6 +223,28 @@ public final class BoundaryTest extends Checks {
         due("f is asked before", x.between(0, 1, 0, 0, -1), BAD);
     }
 
+    /** Every two of many points, near and written in several ways, on both sides of 0. */
+    private static void allPartsOfTheLine() {
+        says("How many ROOTS are above the POINT n / 2^e and not above the POINT m / 2^f "
+            + "(0, if the second is not above the first: asked last).");
+        int[] quarters = {-4, -3, -2, -1, 1, 2, 3, 4};
+        int[] all = product(row(1, 1), row(3, 4), row(1, 2), row(1, 4), row(-1, 4), row(-1, 2), row(-3, 4), row(-1, 1));
+        for (int e = 0; e <= 3; e++) {
+            for (int f = 0; f <= 3; f++) {
+                for (int n = -10; n <= 10; n++) {
+                    RootIsolator x = of(all);
+                    for (int m = -10; m <= 10; m++) {
+                        int many = 0;
+                        for (int quarter : quarters) {
+                            many += n << 2 < quarter << e && quarter << f <= m << 2 ? 1 : 0;
+                        }
+                        due("between(0, " + n + ", " + e + ", " + m + ", " + f + ")", x.between(0, n, e, m, f), many);
+                    }
+                }
+            }
+        }
+    }
+
     private static void betweenRefused() {
         says("BAD: no such polynomial, e or f; ZERO.");
         RootIsolator x = isolated();
@@ -543,6 +565,24 @@ public final class BoundaryTest extends Checks {
         fill(x, 1, 0, 0, 0, 0, 0, 0, 0, 0, -MOST);
         signOfB("the greatest degree", x, -1, -1, -1);
         threeRoots("B's changes leave it", x);
+        // Eight roots between -1 and 1, none of them a fraction, in an A whose leading number is not 1.
+        fill(x, 0, 3900001, 0, -124800000, 0, 624000000, 0, -998400000, 0, 499200000);
+        due("eight", x.isolate(0), 8);
+        for (int side = -1; side <= 1; side++) {
+            fill(x, 1, side * 7);
+            for (int i = 0; i < 8; i++) {
+                due("7 times " + side + ": signAt(" + i + ")", x.signAt(i), side);
+            }
+        }
+        // (x^2 - 2) (x^2 - 7): two roots of A in cells side by side, B's own between them
+        fill(x, 0, product(row(-2, 0, 1), row(-7, 0, 1)));
+        fill(x, 1, -2, 1);
+        due("four", x.isolate(0), 4);
+        due("below B's root", x.signAt(2), -1);
+        due("above B's root", x.signAt(3), 1);
+        fill(x, 1, 2, 1);
+        due("below B's root", x.signAt(0), -1);
+        due("above B's root", x.signAt(1), 1);
     }
 
     private static void signsOfBFarOut() {
@@ -653,6 +693,11 @@ public final class BoundaryTest extends Checks {
         fill(x, 0, FARTHEST);
         fill(x, 1, -MOST, -MOST, -MOST, -MOST, -MOST, -MOST, -MOST, 1);
         due("none", x.divisor(), 0);
+        // B is 3 x^5 - 3, A is B times 2 x^3 + x + 1 and (x - 1) (5 x + 7)
+        fill(x, 0, -10, -1, 5, -6, 0, 3, 3, 0, 6);
+        fill(x, 1, -3, 0, 0, 0, 0, 3);
+        due("remainders that lack powers", x.divisor(), 1);
+        due("remainders that lack powers", x.common(), 1);
     }
 
     private static void divisorsOfZero() {
@@ -944,6 +989,7 @@ public final class BoundaryTest extends Checks {
         signRefused();
         partsOfTheLine();
         partsTurned();
+        allPartsOfTheLine();
         betweenRefused();
         allRoots();
         rootsRefused();

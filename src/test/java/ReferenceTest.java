@@ -516,11 +516,7 @@ public final class ReferenceTest {
         BigInteger[] p = poly(random.nextInt(4) == 0 ? upTo(20) : random.nextBoolean() ? 1 : -1);
         for (int round = 1 + random.nextInt(8); round > 0; round--) {
             BigInteger[] q = product(p, factors.get(random.nextInt(factors.size())));
-            boolean fits = q.length <= 9;
-            for (BigInteger c : q) {
-                fits &= c.abs().compareTo(BigInteger.valueOf(MOST)) <= 0;
-            }
-            p = fits ? q : p;
+            p = fits(q) ? q : p;
         }
         return p;
     }
@@ -535,6 +531,44 @@ public final class ReferenceTest {
         }
         out[3 + random.nextInt(6)] = BigInteger.valueOf(1 + random.nextInt(3));
         return trim(out);
+    }
+
+    private static boolean fits(BigInteger[] p) {
+        boolean fits = p.length <= 9;
+        for (BigInteger c : p) {
+            fits &= c.abs().compareTo(BigInteger.valueOf(MOST)) <= 0;
+        }
+        return fits;
+    }
+
+    private BigInteger[] smallPoly(int degree) {
+        long[] row = new long[degree + 1];
+        for (int k = 0; k < degree; k++) {
+            row[k] = random.nextBoolean() ? 0 : upTo(4);
+        }
+        row[degree] = random.nextBoolean() ? 1 + random.nextInt(7) : -1 - random.nextInt(7);
+        return poly(row);
+    }
+
+    /** Two polynomials whose remainders, down to a factor that both have, fall by several degrees at once. */
+    private void fillWithGaps() {
+        BigInteger[] lower = factors.get(random.nextInt(factors.size()));
+        BigInteger[] upper = product(lower, smallPoly(random.nextInt(3)));
+        for (int round = 0; round < 8; round++) {
+            BigInteger[] next = product(upper, smallPoly(random.nextInt(4)));
+            BigInteger[] rest = product(lower, smallPoly(0));
+            for (int k = 0; k < rest.length; k++) {
+                next[k] = next[k].add(rest[k]);
+            }
+            if (!fits(next) || next[next.length - 1].signum() == 0) {
+                break;
+            }
+            lower = upper;
+            upper = next;
+        }
+        boolean turned = random.nextBoolean();
+        fill(0, trim(turned ? lower : upper));
+        fill(1, trim(turned ? upper : lower));
     }
 
     private BigInteger[] anyPoly() {
@@ -684,8 +718,12 @@ public final class ReferenceTest {
         for (int k = 0; k < 4; k++) {
             factors.add(factor());
         }
-        fill(0, anyPoly());
-        fill(1, anyPoly());
+        if (run % 4 == 0) {
+            fillWithGaps();
+        } else {
+            fill(0, anyPoly());
+            fill(1, anyPoly());
+        }
         same("common()", mine.common(), due.common());
         same("divisor()", mine.divisor(), due.divisor());
         askRoots();

@@ -163,6 +163,13 @@ public final class TermsTest extends Checks {
         root("under 1 by less than 2^-30", x, 1, 30, ONE - 1, 0, 1);
         due("the least at level 0", x.isolate(0), 2);
         root("the least at level 0", x, 0, 0, -MOST - 1, 0, 1);
+        // A little under 1 + 3 / 2, and a little over its opposite
+        fill(x, 0, -3, -3, -3, -3, -3, -3, -3, -3, 2);
+        due("under 5 / 2", x.isolate(1), 2);
+        root("under 5 / 2", x, 1, 1, 4, 0, 1);
+        fill(x, 0, -3, 3, -3, 3, -3, 3, -3, 3, 2);
+        due("over -5 / 2", x.isolate(1), 2);
+        root("over -5 / 2", x, 0, 1, -5, 0, 1);
     }
 
     private static void thePlace() {
@@ -197,7 +204,30 @@ public final class TermsTest extends Checks {
         fill(x, 0, product(row(-1, 1), row(-1, 1)));
         x.isolate(0);
         root("a root that counts twice is no other root", x, 0, 0, 0, 1, 2);
+        twoPairs();
         nearPlaces();
+    }
+
+    /** Two pairs that part at levels that differ: no pair waits for the other. */
+    private static void twoPairs() {
+        RootIsolator x = of(product(row(-1, 8), row(-2, 8), row(-9, 2), row(-5, 1)));
+        due("the upper pair parts first", x.isolate(0), 4);
+        root("1 / 8", x, 0, 3, 0, 1, 1);
+        root("2 / 8", x, 1, 3, 1, 1, 1);
+        root("9 / 2", x, 2, 1, 8, 1, 1);
+        root("5", x, 3, 1, 9, 1, 1);
+        fill(x, 0, product(row(-1, 2), row(-1, 1), row(-33, 8), row(-34, 8)));
+        due("the lower pair parts first", x.isolate(0), 4);
+        root("1 / 2", x, 0, 1, 0, 1, 1);
+        root("1", x, 1, 1, 1, 1, 1);
+        root("33 / 8", x, 2, 3, 32, 1, 1);
+        root("34 / 8", x, 3, 3, 33, 1, 1);
+        // 1 / 8, 2 / 8 and 7 / 8 share a cell at first; then the last has one of its own.
+        fill(x, 0, product(row(-1, 8), row(-2, 8), row(-7, 8)));
+        due("three in a cell", x.isolate(0), 3);
+        root("1 / 8", x, 0, 3, 0, 1, 1);
+        root("2 / 8", x, 1, 3, 1, 1, 1);
+        root("7 / 8", x, 2, 1, 1, 0, 1);
     }
 
     /** Roots nearer than any level's cells, yet a fraction that ends its cell lies between them. */
