@@ -228,6 +228,17 @@ public final class TermsTest extends Checks {
         root("1 / 8", x, 0, 3, 0, 1, 1);
         root("2 / 8", x, 1, 3, 1, 1, 1);
         root("7 / 8", x, 2, 1, 1, 0, 1);
+        // The same m at two levels is not the same cell.
+        fill(x, 0, product(row(7, 2), row(7, 4), row(5, 4)));
+        due("m is -4 twice", x.isolate(0), 3);
+        root("-7 / 2", x, 0, 0, -4, 0, 1);
+        root("-7 / 4", x, 1, 1, -4, 0, 1);
+        root("-5 / 4", x, 2, 1, -3, 0, 1);
+        fill(x, 0, product(row(-5, 4), row(-7, 4), row(-7, 2)));
+        due("m is 3 twice", x.isolate(0), 3);
+        root("5 / 4", x, 0, 1, 2, 0, 1);
+        root("7 / 4", x, 1, 1, 3, 0, 1);
+        root("7 / 2", x, 2, 0, 3, 0, 1);
     }
 
     /** Roots nearer than any level's cells, yet a fraction that ends its cell lies between them. */
