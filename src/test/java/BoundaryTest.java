@@ -700,6 +700,22 @@ public final class BoundaryTest extends Checks {
         due("remainders that lack powers", x.common(), 1);
     }
 
+    private static void withGaps() {
+        int[] roots = {2, 2, 3, 4, 2, 3, 4, 3, 4, 3, 4, 3};
+        int[] common = {0, 0, 1, 1, 0, 1, 2, 1, 1, 2, 1, 1};
+        int[] divisor = {0, 0, 2, 1, 0, 1, 2, 1, 1, 2, 1, 1};
+        for (int k = 0; k < roots.length; k++) {
+            RootIsolator x = pair(WITH_GAPS[2 * k], WITH_GAPS[2 * k + 1]);
+            says("How many ROOTS there are.");
+            due("remainders with gaps, " + k, x.roots(0), roots[k]);
+            due("remainders with gaps, " + k, x.isolate(0), roots[k]);
+            says("How many ROOTS A and B have in common, as they are now.");
+            due("remainders with gaps, " + k, x.common(), common[k]);
+            says("The DEGREE of the greatest common divisor of A and B");
+            due("remainders with gaps, " + k, x.divisor(), divisor[k]);
+        }
+    }
+
     private static void divisorsOfZero() {
         says("(of one that is ZERO and another: the other's)");
         RootIsolator x = of(THREE);
@@ -1007,6 +1023,7 @@ public final class BoundaryTest extends Checks {
         inCommon();
         inCommonZero();
         divisors();
+        withGaps();
         divisorsOfZero();
         derives();
         deriveFull();

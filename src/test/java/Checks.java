@@ -16,6 +16,22 @@ abstract class Checks {
     static final int[] WRONG_LEVEL = {-1, 31, 32, 62, 64, -30, 256, 65536, LEAST_INT, GREATEST_INT};
     static final int[] WRONG_NUMBER = {MOST + 1, -MOST - 1, GREATEST_INT, LEAST_INT};
 
+    // A and B by turns. The remainders of A and its derivative, or of A and B, fall by two degrees or more
+    // somewhere in the middle, which is rare: what is divided out of them then is not the usual factor.
+    static final int[][] WITH_GAPS = {
+        {-1, 0, 2, -1, 1, 0, 2, -2, 2}, {1, 0, 0, 0, 0, 0, 0, 0, 0},
+        {1, 2, -1, -1, -1, 0, -2, -2, -2}, {2, -2, 2, 0, 0, 0, 0, 0, 0},
+        {0, 0, -1, 0, 1, 0, 2, 2, 2}, {0, 0, -2, -1, 0, 0, 0, 0, 0},
+        {-3, 2, 12, -11, 3, -3, -9, 18, -9}, {0, 8, 3, -5, 6, -12, 0, 0, 0},
+        {10, 1, -4, 0, 0, 9, 9, 0, -3}, {-12, -9, 1, 0, 12, 3, 7, 0, 0},
+        {-5, 5, 8, -8, 6, -6, 2, -2, 0}, {-4, 13, -9, 0, 0, 0, -10, 8, 2},
+        {0, 2, -2, 0, -2, 2, -1, -1, 2}, {0, 1, -1, -1, -1, 2, 1, -1, 0},
+        {0, 0, 0, 0, 0, -1, -1, 1, 1}, {2, -3, 1, 2, -3, 1, 0, 2, -2},
+        {7, -19, 12, 9, -9, -10, 3, 15, -8}, {0, -9, 0, 13, -9, 5, 12, 0, -12},
+        {0, -6, 6, 8, -1, -10, 12, -9, 0}, {0, -2, 7, -1, 7, -11, 2, -1, -1},
+        {0, 0, 0, 2, -1, -1, 0, -2, 2}, {-2, 1, 1, 0, 0, -1, 3, -1, -1},
+        {-1, 1, 7, -16, 0, 15, -10, 4, 0}, {-4, 4, 0, 2, -2, 0, 0, -11, 11}};
+
     private static String sentence = "";
     private static int askedBefore = 0;
     private static int asked = 0;

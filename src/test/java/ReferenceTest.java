@@ -550,6 +550,10 @@ public final class ReferenceTest {
         return poly(row);
     }
 
+    private static BigInteger[] withGaps(int place) {
+        return poly(Arrays.stream(Checks.WITH_GAPS[place % Checks.WITH_GAPS.length]).asLongStream().toArray());
+    }
+
     /** Two polynomials whose remainders, down to a factor that both have, fall by several degrees at once. */
     private void fillWithGaps() {
         BigInteger[] lower = factors.get(random.nextInt(factors.size()));
@@ -720,6 +724,9 @@ public final class ReferenceTest {
         }
         if (run % 4 == 0) {
             fillWithGaps();
+        } else if (run % 4 == 2 && run % 3 == 0) {
+            fill(0, withGaps(run / 12 * 2));
+            fill(1, withGaps(run / 12 * 2 + 1));
         } else {
             fill(0, anyPoly());
             fill(1, anyPoly());
